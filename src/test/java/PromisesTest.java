@@ -388,6 +388,12 @@ public final class PromisesTest {
         for (int i = 0; i < 16; i++) Due.is("undo", x.undo(), 0);
         Due.is("the 17th is gone", x.undo(), -3);
         Due.rowIs("the first stays", x, 0, 0, 6, 3);
+        for (int i = 0; i < 20; i++) x.turn(i % 4, 2 + i / 4 + i % 4);
+        for (int i = 19; i >= 4; i--) {
+            Due.is("undo a turn", x.undo(), 2);
+            Due.is("what it was", x.at(i % 4, 0), 1 + i / 4 + i % 4);
+        }
+        Due.is("20 turns, 16 kept", x.undo(), -3);
         x.pass();
         x.row();
         x.terms(0, 5000);
@@ -632,6 +638,8 @@ public final class PromisesTest {
                 x = new BracketHouse();
                 x.terms(1, deep);
                 x.image(1);
+                // What was worked out for greater depths must not be in the way.
+                x.rows(12, 12);
             }
             byte[] signs = new byte[2 * n];
             for (int i = 0; i < 2 * n; i++) {
@@ -643,7 +651,7 @@ public final class PromisesTest {
             Due.is("rank of the row of " + k, x.rank(), k);
             x.back(1);
         }
-        Due.is("nth beyond", x.nth(n, all.size(), 0), -1);
+        for (int i = 0; i < 2 * n; i++) Due.is("nth beyond", x.nth(n, all.size(), i), -1);
     }
 
     private static void tenPairs(long k) {
@@ -685,6 +693,7 @@ public final class PromisesTest {
         hideIs("one said and one not", x, 3, 2, 0, 0, 1);
         hideIs("below 0", x, -1);
         hideIs("beyond 63", x, 64);
+        hideIs("beyond 63 with one who is said", x, 66);
         Due.is("hide what -1", x.hide(2, -1), -1);
         Due.is("hide what 4", x.hide(2, 4), -1);
         hideIs("two places", Due.house(6, 0, 3, 6, 7), 1, 2, 0, 0, 4);
@@ -699,6 +708,8 @@ public final class PromisesTest {
         hideIs("barred", Due.under("bars if sign = 0 or sign = 4; costs 3 if sign = 5; costs 2 if sign = 2", 6), 1, 5, 2, 0, 1);
         hideIs("barred all", Due.under("bars if sign < 3", 6), 1);
         hideIs("the closing one at its place as now", Due.under("bars if place = 2", 6, 7), 1, 2, 0, 0, 1);
+        hideIs("a loose one can't be between", Due.under("costs 9 - place", 6, 0), 1, 9 + 8, 0, 0, 1);
+        hideIs("nor ahead", Due.under("costs 9 + place", 3, 6), 1, 10 + 11, 0, 1, 2);
         hideIs("length as now", Due.under("costs length", 6, 7), 2, 4, 0, 0, 2);
     }
 

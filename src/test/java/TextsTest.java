@@ -49,6 +49,9 @@ public final class TextsTest {
         lawIs("bar", 0);
         lawIs("barss", 0);
         lawIs("Bars", 0);
+        lawIs("barsz", 0);
+        lawIs("barsa", 0);
+        lawIs("costs1z", 6);
         lawIs("if 1=1", 0);
         lawIs("bars 1", 5);
         lawIs("bars bars", 5);
@@ -187,6 +190,8 @@ public final class TextsTest {
         lawIs("costs " + times("[1]+", 20) + times("[", 8) + "1" + times("]", 8), -1);
         lawIs("bars if " + times("(1=1) or ", 10) + times("(", 8) + "1=1" + times(")", 8), -1);
         lawIs("costs " + times("[", 394), 14);
+        lawIs(times(";", 400), 0);
+        lawIs("bars" + times("]", 396), 4);
     }
 
     private static void manyNots() {
@@ -265,8 +270,9 @@ public final class TextsTest {
         x.terms(0, 31);
         x.terms(2, 8);
         String[] word = {"sign", "kind", "open", "person", "place", "length", "page", "mood"};
-        int[][] want = {{1, 1, 1, -1, 2, 3, 31, 8}, {5, 2, 0, -1, 2, 3, 31, 8}, {10, -1, 0, 4, 2, 3, 31, 8}};
-        int[] signs = {1, 5, 10};
+        int[][] want = {{1, 1, 1, -1, 2, 3, 31, 8}, {5, 2, 0, -1, 2, 3, 31, 8}, {10, -1, 0, 4, 2, 3, 31, 8}, {6, -1, 0, 0, 2, 3, 31, 8}, {3, 0, 0, -1, 2, 3, 31, 8},
+            {2, 2, 1, -1, 2, 3, 31, 8}};
+        int[] signs = {1, 5, 10, 6, 3, 2};
         x.image(0);
         for (int w = 0; w < word.length; w++) {
             x.back(0);
