@@ -813,7 +813,7 @@ public final class BracketHouse {
 
         /** A new step; its number. */
         int addStep(int step, int value) {
-            int i = Math.min(size, steps.length - 1);
+            int i = size < steps.length ? size : steps.length - 1;
             steps[i] = step;
             values[i] = value;
             size = i + 1;
@@ -1221,8 +1221,8 @@ public final class BracketHouse {
     /** What is done to a state by hand or by orders, and the latest of it, to be undone. */
     private static final class Deeds {
         int size = 0;
+        final Asker asker;
         private final State state;
-        private final Asker asker;
         private final int[] kinds = new int[UNDOABLE];
         private final int[] places = new int[UNDOABLE];
         private final int[] signs = new int[UNDOABLE];
@@ -1597,6 +1597,7 @@ public final class BracketHouse {
                     int byFirst = stakes[from] - best[from + 1][to];
                     int byLast = stakes[to - 1] - best[from][to - 1];
                     best[from][to] = Math.max(byFirst, byLast);
+                    // What stays is that of the whole row, which comes last.
                     takenFirst = byLast > byFirst ? 1 : 0;
                 }
             }
