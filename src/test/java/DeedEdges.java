@@ -261,6 +261,7 @@ final class DeedEdges {
             }
             Edge.is("undo() of one more, of " + n, x.undo(), -3);
         }
+        mixedDeeds();
         BracketHouse x = OrderEdges.withDeeds(16);
         x.undo();
         Edge.is("one goes and one comes", x.pass(), 1);
@@ -269,6 +270,30 @@ final class DeedEdges {
         for (int i = 0; i < 15; i++) Edge.is("undo()", x.undo(), 2);
         Edge.is("undo() of one more", x.undo(), -3);
         Edge.rowIs(x, 6);
+    }
+
+    /** One of each, again and again, so that the kinds that are kept move on, too. */
+    private static void mixedDeeds() {
+        for (int n = 16; n <= 40; n++) {
+            BracketHouse x = Due.house(6);
+            for (int i = 0; i < n; i++) deed(x, i % 4);
+            Edge.is("count(3) behind " + n + " of all kinds", x.count(3), 16);
+            for (int i = n - 1; i >= n - 16; i--) Edge.is("undo() " + i + " of " + n + " of all kinds", x.undo(), i % 4);
+            Edge.is("undo() of one more, of " + n + " of all kinds", x.undo(), -3);
+            BracketHouse y = Due.house(6);
+            for (int i = 0; i < n - 16; i++) deed(y, i % 4);
+            Edge.is("count(11) behind all that", x.count(11), y.count(11));
+            for (int p = 0; p < 3; p++) Edge.is("at(" + p + ", 0) behind all that", x.at(p, 0), y.at(p, 0));
+        }
+    }
+
+    private static void deed(BracketHouse x, int kind) {
+        switch (kind) {
+            case 0: x.put(8, 1); break;
+            case 1: x.cut(0); break;
+            case 2: x.turn(0, 9); break;
+            default: x.pass(); break;
+        }
     }
 
     private static void undoNone() {

@@ -263,6 +263,12 @@ final class LawEdges {
         testIs("(1=1 or 1/0=1) and 1/0=1", 0);
         testIs("1=1 or (1=2 or 1/0=1)", 1);
         testIs("1=1 or not 1/0=1", 1);
+        testIs("1<2 or 1/0=1", 1);
+        testIs("2>1 or 1/0=1", 1);
+        testIs("not 2<1 or 1/0=1", 1);
+        testIs("2<1 and 1/0=1 or 1=1", 1);
+        testIs("1>2 and 1/0=1 or 1=1", 1);
+        testIs("not 1=1 and 1/0=1 or 1=1", 1);
         testIs("1000*1000*1000+1=0 or 1=1", 0);
         testIs("1=1 or 1000*1000*1000+1=0", 1);
     }
@@ -277,6 +283,10 @@ final class LawEdges {
         testIs("not (1=2 and 1=2)", 1);
         testIs("not 1=1 or 1=1", 1);
         testIs("not not 1=1", 1);
+        testIs("not 1<2", 0);
+        testIs("not 2>1", 0);
+        testIs("not 2<1", 1);
+        testIs("not 1>2", 1);
         testIs("1<2", 1);
         testIs("2<2", 0);
         testIs("3<2", 0);

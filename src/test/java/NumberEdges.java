@@ -50,10 +50,11 @@ final class NumberEdges {
         }
     }
 
-    /** A house with a DEEP of its own. */
+    /** A house with a DEEP of its own; greater depths have been worked out in it, which must not be in the way. */
     private static BracketHouse deep(int deep, int... signs) {
         BracketHouse x = signs.length == 0 ? new BracketHouse() : Due.house(signs);
         x.terms(1, deep);
+        x.rows(12, 12);
         return x;
     }
 
@@ -91,6 +92,8 @@ final class NumberEdges {
         for (long k : new long[] {-1, 3, Long.MIN_VALUE, Long.MAX_VALUE, 1L << 32, -(1L << 32)}) {
             Edge.asked(Houses::lived, "nth(1, " + k + ", 0)", x -> x.nth(1, k, 0), -1);
         }
+        Edge.asked(Houses::lived, "nth(1, -1, 1)", x -> x.nth(1, -1, 1), -1);
+        Edge.asked(Houses::lived, "nth(1, 3, 1)", x -> x.nth(1, 3, 1), -1);
         for (int i : new int[] {-1, 2, Integer.MIN_VALUE, Integer.MAX_VALUE}) Edge.asked(Houses::lived, "nth(1, 0, " + i + ")", x -> x.nth(1, 0, i), -1);
         Edge.asked(() -> deep(9), "nth() of one more than there are of 12 pairs", x -> x.nth(12, 110424405303L, 0), -1);
         Edge.asked(() -> deep(9), "nth(12, 0, 24)", x -> x.nth(12, 0, 24), -1);
@@ -106,6 +109,14 @@ final class NumberEdges {
             Edge.is("nth(10, one more, 19) at DEEP " + deep, x.nth(10, all, 19), -1);
             // The first row goes as deep as it may.
             for (int i = 0; i <= deep; i++) Edge.is("nth(10, 0, " + i + ") at DEEP " + deep, x.nth(10, 0, i), i < deep ? 0 : 3);
+        }
+        for (int deep = 1; deep <= 9; deep++) {
+            BracketHouse x = deep(deep);
+            for (int i = 0; i < 24; i++) {
+                int before = x.nth(12, 1000, i);
+                x.rows(12, 12);
+                Edge.is("nth(12, 1000, " + i + ") behind rows(12, 12)", x.nth(12, 1000, i), before);
+            }
         }
         Edge.of(26, "in order as rows of numbers go.");
         for (int deep = 1; deep <= 3; deep++) {
@@ -260,6 +271,8 @@ final class NumberEdges {
         hideIs("not whole between", () -> Due.house(6, 0, 6), 1);
         hideIs("whole between", () -> Due.house(6, 0, 3, 6), 1, 2, 0, 0, 4);
         hideIs("one of a pair between", () -> Due.house(6, 3, 6), 1);
+        hideIs("one that opens would be the last between", () -> Due.under("costs 9 - place", 6, 0), 1, 9 + 8, 0, 0, 1);
+        hideIs("one that closes would be the first between", () -> Due.under("costs 9 + place", 3, 6), 1, 10 + 11, 0, 1, 2);
         hideIs("all names, not one alone", () -> Due.house(7, 6, 7, 6), 1, 2, 0, 0, 4);
         hideIs("names that lie 1 deep are not looked at", () -> Due.house(0, 6, 3, 6), 1, 2, 0, 0, 4);
         hideIs("names that lie 1 deep can stay outside", () -> Due.under("costs 9 - place", 0, 6, 3, 6), 1, 6 + 5, 0, 3, 4);

@@ -48,6 +48,7 @@ final class OrderEdges {
         x = run(Houses::lived, "pass if 1=2", 0);
         Edge.is("none were run, and what can be undone stays", x.count(3), 4);
         Edge.same(() -> with(Houses.lived(), "cut 0 if 1=2"), "orders() of which none is run", BracketHouse::orders, Edge.TAPE_EMPTIED, "fault()", "stopped()");
+        manyTexts();
         // What orders do is what the calls do, and is undone likewise.
         Edge.same(() -> with(Houses.lived(), "put 6 at 0; cut 1; turn 0 to 7; pass"), "orders() of one of each", BracketHouse::orders, y -> {
             y.end(0);
@@ -56,6 +57,15 @@ final class OrderEdges {
             y.turn(0, 7);
             return y.pass();
         }, "fault()", "stopped()");
+    }
+
+    /** Texts of 50 parts, one behind the other: what is read of one is not in the way of the next. */
+    private static void manyTexts() {
+        BracketHouse y = new BracketHouse();
+        for (int i = 1; i <= 30; i++) {
+            Edge.is("orders() of 50 parts, text " + i, Due.orders(y, "put " + "1+".repeat(6) + "0 at 0*" + "1*".repeat(40) + "1; cut 0"), 2);
+            Edge.is("count(0) behind text " + i, y.count(0), 0);
+        }
     }
 
     private static void times() {

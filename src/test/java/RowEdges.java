@@ -88,9 +88,47 @@ final class RowEdges {
         matesAre("crossed", new int[] {0, 1, 3, 4}, -1, 3, -1, 1);
         matesAre("closed ahead of it", new int[] {3, 0}, -1, -1);
         matesAre("names between", new int[] {0, 6, 3}, 2, -1, 0);
+        pairedAnew();
         int[] mates = new int[20];
         for (int i = 0; i < 20; i++) mates[i] = 19 - i;
         for (int kind = 0; kind < 3; kind++) matesAre("ten within one another", nested(kind), mates);
+    }
+
+    private static void pairIs(String name, BracketHouse x, int mate, int loose) {
+        Edge.is("at(0, 1) " + name, x.at(0, 1), mate);
+        Edge.is("at(0, 3) " + name, x.at(0, 3), mate < 0 ? 1 : 0);
+        Edge.is("count(1) " + name, x.count(1), loose);
+    }
+
+    /** What is paired is asked ahead of each change and behind it. */
+    private static void pairedAnew() {
+        BracketHouse x = Due.house(0, 3);
+        x.image(0);
+        pairIs("at first", x, 1, 0);
+        x.turn(1, 4);
+        pairIs("behind turn()", x, -1, 2);
+        x.undo();
+        pairIs("behind undo() of it", x, 1, 0);
+        x.put(1, 1);
+        pairIs("behind put()", x, -1, 3);
+        x.undo();
+        pairIs("behind undo() of it", x, 1, 0);
+        x.cut(1);
+        pairIs("behind cut()", x, -1, 1);
+        x.undo();
+        pairIs("behind undo() of it", x, 1, 0);
+        Due.orders(x, "turn 1 to 5; cut 9");
+        pairIs("behind orders that can't be", x, 1, 0);
+        Due.orders(x, "turn 1 to 5");
+        pairIs("behind orders", x, -1, 2);
+        x.back(0);
+        pairIs("behind back()", x, 1, 0);
+        x.cut(1);
+        pairIs("behind cut()", x, -1, 1);
+        Due.row(x, 3);
+        pairIs("behind row()", x, 1, 0);
+        x.readers(ReaderEdges.seedOf(1), 1);
+        pairIs("behind readers()", x, 1, 0);
     }
 
     private static void deep() {
@@ -200,6 +238,12 @@ final class RowEdges {
         mendIs("20 that open, for nothing", 0, 20, () -> Due.under("costs 0", ALL_OPEN));
         mendIs("20 that close, for more than 99 each", 1980, 20, () -> Due.under("costs 1000", ALL_CLOSE));
         mendIs("what lived() has", 3 + 7, 2, Houses::lived);
+        for (int sign = 0; sign < 6; sign++) {
+            int loose = sign;
+            mendIs(sign + " alone", 1, 1, () -> Due.house(loose));
+            mendIs("a name ahead of " + sign, 1, 1, () -> Due.house(6, loose));
+            mendIs("a name behind " + sign, 1, 1, () -> Due.house(loose, 6));
+        }
         Edge.of(21, "(On paper, all asked with PLACE, length as now:) MENDED: the least that SIGNS COST which are PUT");
         mendIs("length as now", 4, 2, () -> Due.under("costs length", 0, 0));
         // Behind the last one: the place is the length; ahead of the first one it is 0.
@@ -291,6 +335,16 @@ final class RowEdges {
     }
 
     private static void strikeWithout() {
+        Edge.of(22, "whether the one at PLACE p is CUT (1 and p: 1, 0).");
+        BracketHouse again = Due.house(0, 0);
+        Edge.is("strike(1) ahead of a turn", again.strike(1), 1);
+        Edge.is("strike(2) ahead of a turn", again.strike(2), 1);
+        again.turn(1, 3);
+        Edge.is("strike(1) behind it", again.strike(1), 0);
+        Edge.is("strike(2) behind it", again.strike(2), 0);
+        again.turn(0, 6);
+        Edge.is("strike(1) of a name", again.strike(1), 0);
+        Edge.is("strike(2) without the other one", again.strike(2), 1);
         Edge.of(22, "NONE.");
         for (int what : new int[] {-1, 5, 21, Integer.MIN_VALUE, Integer.MAX_VALUE}) Edge.asked(Houses::lived, "strike(" + what + ")", x -> x.strike(what), -1);
         Edge.asked(Houses::bare, "strike(1) of an empty row", x -> x.strike(1), -1);
@@ -319,6 +373,12 @@ final class RowEdges {
         runIs("the first is longer", () -> Due.house(0, 3, 3, 6), 2, 0);
         runIs("at the end", () -> Due.house(0, 4, 6), 1, 2);
         runIs("not the row's pairs: read by itself", () -> Due.house(0, 1, 4, 2), 2, 1);
+        BracketHouse again = Due.house(6, 7, 8);
+        for (int n = 3; n >= 0; n--) {
+            Edge.is("run(0) of " + n, again.run(0), n);
+            Edge.is("run(1) of " + n, again.run(1), n == 0 ? -1 : 0);
+            again.cut(0);
+        }
         int[] last = Houses.times(20, 0);
         last[19] = 6;
         runIs("the last place alone", () -> Due.house(last), 1, 19);

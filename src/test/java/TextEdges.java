@@ -140,6 +140,10 @@ final class TextEdges {
         lawFails(times(" ", 395) + "bars;", 400);
         lawFails(times(" ", 395) + "costs", 400);
         lawIs("costs " + times("0", 394));
+        // As many tokens as there are bytes.
+        lawFails(times(";", 400), 0);
+        lawFails(times(";1", 200), 0);
+        lawFails("bars" + times("]", 396), 4);
         lawFails("costs " + times("0", 390) + "1001", 6);
         Edge.of(8, TAPE);
         ordersAre(times(" ", 396) + "pass");
@@ -158,7 +162,11 @@ final class TextEdges {
         lawFails("costs 10 00", 9);
         lawFails("barsif 1=1", 0);
         lawFails("bars if 1=1and1=1and2", 21);
-        // The bytes beside a, z, 0, 9 and beside the blank.
+        // a, z, 0, 9 and the bytes beside them and beside the blank.
+        lawFails("barsa", 0);
+        lawFails("barsz", 0);
+        lawIs("costs 0900");
+        lawFails("costs 1009", 6);
         lawFails("bars`", 4);
         lawFails("bars{", 4);
         lawFails("barsA", 4);
@@ -349,6 +357,12 @@ final class TextEdges {
         lawFails("costs " + times("[", 394), 14);
         lawFails("bars if " + times("(", 392), 16);
         lawFails("bars if " + times("not(", 98), 8 + 8 * 4 + 3);
+        BracketHouse x = new BracketHouse();
+        for (int i = 0; i < 3; i++) {
+            Edge.is("law() with nine, once more", Due.law(x, "costs " + times("[", 9) + "1" + times("]", 9)), -6);
+            Edge.is("fault()", x.fault(), 14);
+            Edge.is("law() with eight behind it", Due.law(x, "costs " + times("[", 8) + "1" + times("]", 8)), i);
+        }
         Edge.of(8, BRACKETS);
         ordersAre("cut " + times("[", 8) + "99" + times("]", 8));
         ordersFail("cut " + times("[", 9) + "99" + times("]", 9), 12);
