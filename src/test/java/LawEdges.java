@@ -298,6 +298,11 @@ final class LawEdges {
         testIs("0-1<0", 1);
         testIs("1+1=2", 1);
         testIs("0-1000*1000*1000<1000*1000*1000", 1);
+        // As many as 50 parts make.
+        testIs("1=2 or ".repeat(24) + "1=1", 1);
+        testIs("1=2 or ".repeat(24) + "1=2", 0);
+        testIs("1=1 and ".repeat(24) + "1=1", 1);
+        testIs("1=1 and ".repeat(24) + "1=2", 0);
         Edge.of(12, "SUM: TERM {('+' | '-') TERM}. TERM: PART {('*' | '/' | '%') PART}. PART: NUMBER (to 1,000) | '[' SUM ']' | a word, as told.");
         sumIs("2+3*4", 14);
         sumIs("[2+3]*4", 20);
