@@ -69,8 +69,8 @@ final class TallyEdges {
             }
         }
         BracketHouse x = Houses.of(20, 6);
-        for (int i = 0; i < 480; i++) refuse(x, i % 5);
-        for (int what = 5; what <= 9; what++) Edge.is("count(" + what + ") behind 480", x.count(what), 96);
+        for (int i = 0; i < 400; i++) refuse(x, i % 5);
+        for (int what = 5; what <= 9; what++) Edge.is("count(" + what + ") behind 400", x.count(what), 80);
         // Questions are not refused: they answer NONE.
         x = new BracketHouse();
         x.feed(0, 0, 0, 0, 0);
