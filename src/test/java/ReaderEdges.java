@@ -83,7 +83,7 @@ final class ReaderEdges {
         Edge.refused(BracketHouse::new, "readers(0, 0) ahead of any", x -> x.readers(0, 0), -1);
     }
 
-    /** A model with the row of full(), or with none. */
+    /** A model with a row. */
     private static Model model(int... signs) {
         Model m = new Model();
         for (int sign : signs) m.tape.add(sign);
@@ -196,9 +196,7 @@ final class ReaderEdges {
         x = Due.under("bars", 6);
         Edge.is("readers() of one that can't be put, then one that is cut", x.readers(twice, 2), 2);
         Edge.is("drawn(0)", x.drawn(0), 0);
-        int[] refusals = new int[5];
-        for (int i = 0; i < 5; i++) refusals[i] = x.count(5 + i);
-        for (int i = 0; i < 5; i++) Edge.is("count(" + (5 + i) + "): nothing is refused", refusals[i], 0);
+        for (int what = 5; what <= 9; what++) Edge.is("count(" + what + "): nothing is refused", x.count(what), 0);
     }
 
     private static void cuts() {
