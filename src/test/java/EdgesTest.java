@@ -7,6 +7,7 @@ public final class EdgesTest {
         Edge.open(Path.of(args.length > 0 ? args[0] : "../shared/DOC.md"));
         TapeEdges.all();
         TextEdges.all();
+        TokenEdges.all();
         OrderEdges.all();
         LawEdges.all();
         DeedEdges.all();

@@ -14,24 +14,46 @@ import java.util.regex.Pattern;
 
 /** What can be looked at of ../shared/LANGUAGE.md and of the document's public face. */
 public final class LanguageTest {
-    private static final String[] FACE = {
-        "int terms(int,int)", "int feed(int,int,int,int,int)", "int end(int)", "int row()", "int blots()", "int law()", "int orders()",
-        "int fault()", "int stopped()", "int force(int)", "int asks(int,int,int)", "int put(int,int)", "int cut(int)", "int turn(int,int)",
-        "int pass()", "int undo()", "int at(int,int)", "int said()", "int whole(int,int)", "int mend(int)", "int strike(int)", "int run(int)",
-        "int fits(int)", "long rows(int,int)", "int nth(int,long,int)", "long rank()", "int game(int)", "int hide(int,int)", "long likely(int)",
-        "int compare(int)", "int readers(int,int)", "int drawn(int)", "int image(int)", "int back(int)", "int count(int)", "int status()"};
-
     public static void main(String[] args) throws IOException {
         String source = Files.readString(Path.of(args.length > 0 ? args[0] : "src/main/java/BracketHouse.java"));
-        face();
+        List<String> printed = printedFace(Files.readString(Path.of(args.length > 1 ? args[1] : "../shared/DOC.md")));
+        asPrinted(source, printed);
+        face(printed);
         insides();
         forbidden(code(source));
         methods(source);
         Due.close();
     }
 
-    private static void face() {
-        Set<String> want = new TreeSet<>(List.of(FACE));
+    /** The lines of the document's public face, from the class on. */
+    private static List<String> printedFace(String document) {
+        Matcher face = Pattern.compile("## The public face\\s+```java\\n(.*?)\\n```", Pattern.DOTALL).matcher(document);
+        Due.is("the document prints a face", face.find() ? 1 : 0, 1);
+        return List.of(face.group(1).split("\n"));
+    }
+
+    /** What is public stands in the program as the document prints it, names of parameters and all, in its order. */
+    private static void asPrinted(String source, List<String> printed) {
+        List<String> got = new ArrayList<>();
+        for (String line : source.split("\n")) {
+            if (!line.matches("( {4})?public .*")) continue;
+            got.add(line.startsWith(" ") ? line.replaceFirst(" \\{$", ";") : line);
+        }
+        List<String> want = printed.subList(0, printed.size() - 1);
+        Due.is("so many lines of the face", got.size(), want.size());
+        for (String line : want) Due.is("the program has " + line.trim(), got.contains(line) ? 1 : 0, 1);
+        Due.is("in the order of the document", got.equals(want) ? 1 : 0, 1);
+    }
+
+    /** A printed method as its types alone: "int terms(int,int)". */
+    private static String typesOf(String line) {
+        return line.trim().replaceFirst("^public ", "").replaceFirst(";$", "").replaceAll("(int|long) \\w+(?=[,)])", "$1").replace(", ", ",");
+    }
+
+    private static void face(List<String> printed) {
+        Set<String> want = new TreeSet<>();
+        for (String line : printed) if (line.matches(" {4}public (int|long) .*")) want.add(typesOf(line));
+        Due.is("so many methods are printed", want.size(), 36);
         Set<String> got = new TreeSet<>();
         Set<String> names = new TreeSet<>();
         for (Method m : BracketHouse.class.getDeclaredMethods()) {

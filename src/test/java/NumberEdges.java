@@ -292,6 +292,9 @@ final class NumberEdges {
         hideIs("the greatest number", Houses::lived, Integer.MAX_VALUE);
         for (int what : new int[] {-1, 4, Integer.MIN_VALUE, Integer.MAX_VALUE}) Edge.asked(Houses::lived, "hide(1, " + what + ")", x -> x.hide(1, what), -1);
         hideIs("all barred", () -> Due.under("bars", 6), 1);
+        hideIs("all barred, for nothing", () -> Due.under("costs 0; bars", 6), 1);
+        hideIs("what opens is barred, for nothing", () -> Due.under("costs 0; bars if open = 1", 6), 1);
+        hideIs("what closes is barred, for nothing", () -> Due.under("costs 0; bars if open = 0", 6), 1);
     }
 
     private static void likely() {

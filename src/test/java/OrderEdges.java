@@ -204,6 +204,18 @@ final class OrderEdges {
         for (int i = 0; i < 16; i++) Edge.is("undo() " + i, x.undo(), 2);
         Edge.is("undo() of one more", x.undo(), -3);
         Edge.rowIs(x, 6);
+        for (int n = 1; n <= 18; n++) {
+            int many = n;
+            cant(() -> withPuts(many), "put 11 at 0; cut 0; turn 0 to 9; put 10 at 1 times 20", 3);
+            cant(() -> withPuts(many), "pass times 17; cut length - 1; cut 20", 2);
+        }
+    }
+
+    /** A house with so many names, each put in the middle of those ahead of it, so that each can be undone at one place alone. */
+    private static BracketHouse withPuts(int n) {
+        BracketHouse x = new BracketHouse();
+        for (int i = 0; i < n; i++) x.put(6 + i % 5, (i + 1) / 2);
+        return x;
     }
 
     /** A house with one sign that has been turned so often. */

@@ -191,6 +191,15 @@ final class ReaderEdges {
         x = Due.under("bars if length = 1", 6);
         x.readers(seed, 1);
         Edge.is("drawn(0), barred by the length", x.drawn(0), 1);
+        for (int barring = 0; barring < 6; barring++) {
+            x = Due.house(6);
+            for (int law = 0; law < 6; law++) Due.law(x, law == barring ? "bars" : "costs 1");
+            for (int law = -1; law < 6; law++) {
+                x.force(law);
+                x.readers(seed, 1);
+                Edge.is("drawn(0) by law " + law + ", when law " + barring + " bars all", x.drawn(0), law == barring ? 1 : 2);
+            }
+        }
         // What can't be put has been drawn all the same: the next page goes on behind it.
         int twice = seed(s -> next(s) % 3 == 0 && next(next(next(next(s)))) % 3 == 1 && next(next(next(s))) % 3 != 1 && next(next(s)) % 3 != 1);
         x = Due.under("bars", 6);
@@ -422,6 +431,25 @@ final class ReaderEdges {
         Edge.is("asks(0, 0, 0) of the new one", x.asks(0, 0, 0), 80);
         x.back(1);
         Edge.is("asks(0, 0, 0) of the one that was kept", x.asks(0, 0, 0), 70);
+        eachLawIsKept();
+    }
+
+    /** Of six laws in each image all six, when others have had their numbers between. */
+    private static void eachLawIsKept() {
+        BracketHouse x = new BracketHouse();
+        x.image(0);
+        for (int i = 0; i < 6; i++) Due.law(x, "costs " + (30 + i));
+        x.image(1);
+        x.back(0);
+        for (int i = 0; i < 6; i++) Due.law(x, "costs " + (40 + i));
+        x.image(0);
+        for (int k : new int[] {1, 0, 1}) {
+            x.back(k);
+            for (int i = 0; i < 6; i++) {
+                Edge.is("force(" + i + ") behind back(" + k + ")", x.force(i), i - 1);
+                Edge.is("what law " + i + " of image " + k + " costs", x.asks(0, 0, 0), (k == 1 ? 30 : 40) + i);
+            }
+        }
     }
 
     private static void backWithout() {

@@ -285,6 +285,15 @@ final class RowEdges {
         mendIs("all barred, but whole", 0, 0, () -> Due.under("bars", 0, 3));
         mendIs("all barred, but empty", 0, 0, () -> Due.under("bars"));
         mendIs("20 of which one can't be", -1, -1, () -> Due.under("bars if place = 20", ALL_OPEN));
+        mendIs("all barred, one that closes", -1, -1, () -> Due.under("bars", 3));
+        mendIs("all barred, one that closes behind a pair", -1, -1, () -> Due.under("bars", 0, 3, 4));
+        mendIs("all barred, one that closes behind a name", -1, -1, () -> Due.under("bars", 6, 5));
+        mendIs("what opens is barred", -1, -1, () -> Due.under("bars if open = 1", 1, 5));
+        mendIs("what closes is barred", -1, -1, () -> Due.under("bars if open = 0", 1, 5));
+        mendIs("what opens is barred, nothing closes", 1, 1, () -> Due.under("bars if open = 1", 1));
+        mendIs("what closes is barred, nothing opens", 1, 1, () -> Due.under("bars if open = 0", 5));
+        mendIs("all barred, for nothing", -1, -1, () -> Due.under("costs 0; bars", 3, 0));
+        mendIs("20 that close, of which the last one can't be", -1, -1, () -> Due.under("bars if place < 20", ALL_CLOSE));
         for (int what : new int[] {-1, 2, Integer.MIN_VALUE, Integer.MAX_VALUE}) {
             Edge.asked(Houses::lived, "mend(" + what + ")", x -> x.mend(what), -1);
             Edge.asked(Houses::bare, "mend(" + what + ") of an empty row", x -> x.mend(what), -1);

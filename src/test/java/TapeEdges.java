@@ -47,6 +47,50 @@ final class TapeEdges {
         Edge.is("call 510, a refused one", x.put(12, 0), -1);
         Edge.is("call 511", x.at(0, 0), 6);
         Edge.is("call 512", x.count(5), 1);
+        lastOf("refused terms()", (y, call) -> y.terms(-1, 0), y -> y.count(5), 511);
+        lastOf("pass()", (y, call) -> y.pass(), y -> y.count(11), 511);
+        lastOf("put()", (y, call) -> y.put(call % 12, 0), y -> y.count(8), 491);
+        lastOf("feed() and law()", (y, call) -> feedOr(y, call, "costs 5 + place", y::law), y -> y.count(8), 249);
+        lastOf("laws and back()", TapeEdges::lawOrBack, BracketHouse::law, 0);
+        lastOf("feed() and orders()", (y, call) -> feedOr(y, call, "put 6 at 0; cut 0", y::orders), y -> y.count(3), 16);
+        lastOf("feed() and row()", (y, call) -> feedOr(y, call, "\6\7\10", y::row), BracketHouse::row, 0);
+        lastOf("readers()", (y, call) -> y.readers(call, 60), BracketHouse::status, 0);
+        lastOf("image() and back()", (y, call) -> call % 2 == 1 ? y.image(call / 2 % 2) : y.back(call / 2 % 2), y -> y.back(1), 0);
+    }
+
+    private interface Nth {
+        long on(BracketHouse x, int call);
+    }
+
+    /** What call 512 answers behind 511 of one kind. */
+    private static void lastOf(String name, Nth each, Edge.Call last, long want) {
+        BracketHouse x = new BracketHouse();
+        for (int call = 1; call < 512; call++) each.on(x, call);
+        Edge.is("call 512 behind 511 of " + name, last.on(x), want);
+    }
+
+    private interface Taken {
+        int take();
+    }
+
+    private static long feedOr(BracketHouse x, int call, String text, Taken taken) {
+        return call % 2 == 1 ? feedText(x, text) : taken.take();
+    }
+
+    /** One call: twenty bytes, blanks behind the text. */
+    private static long feedText(BracketHouse x, String text) {
+        int[] n = Due.packed((text + " ".repeat(20 - text.length())).getBytes(java.nio.charset.StandardCharsets.ISO_8859_1), 0);
+        return x.feed(n[0], n[1], n[2], n[3], n[4]);
+    }
+
+    /** An image without laws, then a text, a law, back by turns; the last text is taken by the last call. */
+    private static long lawOrBack(BracketHouse x, int call) {
+        if (call == 1) return x.image(0);
+        switch (call % 3) {
+            case 0: return x.back(0);
+            case 1: return feedText(x, "bars if place = 3");
+            default: return call == 2 ? x.end(0) : x.law();
+        }
     }
 
     private static void constants() {
