@@ -184,13 +184,21 @@ public final class LongRowsTest {
                     long k = i == 0 ? 0 : i == 1 ? all - 1 : Math.floorMod(random.nextLong(), all);
                     int[] row = rowOf(n, deep, k);
                     Due.is("row " + k + " of " + n + " pairs is as deep as told", deepest(row) <= deep ? 1 : 0, 1);
-                    if (n <= 10) Due.is("rank() of row " + k + " of " + n + " pairs", rank(row, deep), k);
+                    if (n <= 10) ranks(row, deep, k);
                     if (k > 0) Due.is("row " + k + " of " + n + " is behind the one ahead of it", java.util.Arrays.compare(rowOf(n, deep, k - 1), row) < 0 ? 1 : 0, 1);
                 }
                 BracketHouse x = new BracketHouse();
                 x.terms(1, deep);
                 Due.is("nth() behind the last row of " + n + " pairs", x.nth(n, all, 0), -1);
             }
+        }
+    }
+
+    /** The number of a row, which it has if DEEP is so much as it needs, else none. */
+    private static void ranks(int[] row, int deep, long k) {
+        Due.is("rank() of row " + k + " of " + row.length / 2 + " pairs", rank(row, deep), k);
+        for (int d = 1; d <= 9; d++) {
+            Due.is("row " + k + " of " + row.length / 2 + " pairs has a number at DEEP " + d, rank(row, d) >= 0 ? 1 : 0, deepest(row) <= d ? 1 : 0);
         }
     }
 

@@ -160,6 +160,13 @@ final class NumberEdges {
             Edge.is("rank() of " + deep + " within one another at DEEP " + deep, deep(deep, signs).rank(), 0);
             Edge.asked(() -> deep(deeper.length / 2 - 1, deeper), "rank() of one more at DEEP " + deep, BracketHouse::rank, -1);
         }
+        // The innermost pair, the one too deep, of each kind; the others of each kind.
+        for (int inner = 0; inner < 3; inner++) {
+            for (int outer = 0; outer < 3; outer++) {
+                Edge.is("rank() of " + inner + " in " + outer + " at DEEP 1", deep(1, outer, inner, inner + 3, outer + 3).rank(), -1);
+                Edge.is("rank() of " + inner + " in " + outer + " at DEEP 2", deep(2, outer, inner, inner + 3, outer + 3).rank(), 6 * outer + inner);
+            }
+        }
         // Behind a row that is not too deep at first.
         Edge.is("too deep behind", deep(1, 0, 3, 0, 0, 3, 3).rank(), -1);
     }
@@ -254,6 +261,7 @@ final class NumberEdges {
         hideIs("the least, at higher places", () -> Due.under("costs 9 - place", 7, 6, 7), 1, 8 + 6, 0, 1, 3);
         hideIs("the least, of a higher kind", () -> Due.under("costs 5; costs 4 if sign = 5", 6), 1, 9, 2, 0, 1);
         hideIs("the lowest of two kinds", () -> Due.under("costs 5; costs 4 if kind > 0", 6), 1, 8, 1, 0, 1);
+        hideIs("the least, of a higher kind, lower kinds behind it", () -> Due.under("costs 5; costs 4 if sign = 5", 7, 6), 1, 9, 2, 0, 2);
         hideIs("the kind ahead of the places", () -> Due.under("costs 5; bars if kind = 0 and place = 0", 7, 6), 1, 10, 0, 1, 2);
         hideIs("the least, further apart", () -> Due.under("costs 5; costs 4 if place = 0 or place = 3; costs 6 if place = 2", 7, 6, 7), 1, 8, 0, 0, 3);
         hideIs("where it closes", () -> Due.house(6, 7, 7), 1, 2, 0, 0, 1);
@@ -274,6 +282,8 @@ final class NumberEdges {
         hideIs("one that opens would be the last between", () -> Due.under("costs 9 - place", 6, 0), 1, 9 + 8, 0, 0, 1);
         hideIs("one that closes would be the first between", () -> Due.under("costs 9 + place", 3, 6), 1, 10 + 11, 0, 1, 2);
         hideIs("all names, not one alone", () -> Due.house(7, 6, 7, 6), 1, 2, 0, 0, 4);
+        hideIs("all names, the first one, too", () -> Due.under("costs 9 - place", 6, 6, 7, 6), 1, 9 + 5, 0, 0, 4);
+        hideIs("all names, the last one, too", () -> Due.under("costs 9 + place", 6, 7, 6, 6), 1, 9 + 13, 0, 0, 4);
         hideIs("names that lie 1 deep are not looked at", () -> Due.house(0, 6, 3, 6), 1, 2, 0, 0, 4);
         hideIs("names that lie 1 deep can stay outside", () -> Due.under("costs 9 - place", 0, 6, 3, 6), 1, 6 + 5, 0, 3, 4);
         hideIs("both of two people", () -> Due.house(6, 8, 7), 3, 2, 0, 0, 3);

@@ -326,6 +326,18 @@ final class RowEdges {
         strikeIs("length as now", () -> Due.under("strikes length", 3, 3), 4, 1, 1);
         strikeIs("the dear one stays", () -> Due.under("strikes 5 if place = 2", 0, 3, 3), 1, 0, 1, 0);
         strikeIs("the two that are cheaper", () -> Due.under("strikes 3 if kind = 1", 0, 1, 3, 4), 2, 1, 0, 1, 0);
+        for (int kind = 0; kind < 3; kind++) {
+            int opens = kind;
+            int closes = kind + 3;
+            strikeIs("a pair of " + kind, () -> Due.house(opens, closes), 0, 0, 0);
+            strikeIs("a pair of " + kind + ", one more that closes", () -> Due.house(opens, closes, closes), 1, 0, 0, 1);
+            strikeIs("what closes " + kind + " and a name of three more", () -> Due.house(closes, closes + 3), 1, 1, 0);
+            for (int other = 0; other < 6; other++) {
+                int beside = other;
+                if (other != closes) strikeIs(kind + " and then " + other, () -> Due.house(opens, beside), 2, 1, 1);
+                strikeIs(closes + " and then " + other, () -> Due.house(closes, beside), 2, 1, 1);
+            }
+        }
         strikeIs("what is barred can be cut", () -> Due.under("bars", 0), 1, 1);
     }
 
